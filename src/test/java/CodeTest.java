@@ -230,6 +230,12 @@ public final class CodeTest {
         c.due("a byte of 225", 9, Checks.faultOf("clause 1:" + (char) 225 + "half;"));
         c.due("a point", 14, Checks.faultOf("clause 1:cap 1.5;"));
         c.due("a word cut by a byte", 9, Checks.faultOf("clause 1:ha-lf;"));
+        c.due("800 signs", 0, Checks.faultOf(";".repeat(800)));
+        c.due("800 letters", 0, Checks.faultOf("a".repeat(800)));
+        c.due("800 digits", 5, Checks.faultOf("omit 1" + "1".repeat(794)));
+        c.due("800 blanks", -1, Checks.faultOf(" ".repeat(800)));
+        c.due("800 bytes, more must come", 800, Checks.faultOf("clause 1:half if age=1" + " or age=1".repeat(86) + "    "));
+        c.due("a long IF", -1, Checks.faultOf("clause 1:half if age=1" + " or age=1".repeat(86) + "   ;"));
     }
 
     private static String rewritten(String text) {

@@ -549,5 +549,14 @@ public final class ReckoningsTest {
         y.teacher(0);
         y.proof(0, 0, 0);
         c.due("without a step clause any PROOF does", 2, y.teacherOf(0, 1, 0));
+        SchoolBoard z = board(0, 1, "");
+        for (int i = 0; i < 20; i++) {
+            z.teacher(0);
+        }
+        z.proof(1, 0, 0);
+        z.proof(19, 0, 0);
+        for (int i = 0; i < 20; i++) {
+            c.due("each its own PROOFS, " + i, i == 1 || i == 19 ? 2 : 1, z.teacherOf(i, 1, 0));
+        }
     }
 }
