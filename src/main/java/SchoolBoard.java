@@ -2049,9 +2049,12 @@ public final class SchoolBoard {
         }
 
         private void reckonHours(int year) {
-            for (int set = 1; set < SETS; set++) {
-                int lowest = Integer.numberOfTrailingZeros(set);
-                hoursOf[set] = hoursOf[set & (set - 1)] + code.least(year, TEACH, 1 << lowest, 1);
+            for (int subject = 0; subject < SUBJECTS; subject++) {
+                int bit = 1 << subject;
+                int needed = code.least(year, TEACH, bit, 1);
+                for (int lesser = 0; lesser < bit; lesser++) {
+                    hoursOf[bit + lesser] = needed + hoursOf[lesser];
+                }
             }
         }
 

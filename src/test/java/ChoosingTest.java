@@ -152,6 +152,22 @@ public final class ChoosingTest {
         c.due("3 of 4", 1, x.entering(0, 3, 10));
         c.due("3 of 4", 3, x.entering(0, 3, 11));
         c.due("nothing that brings nothing", 3, x.entering(0, 200, 11));
+        SchoolBoard z = board(1, 1, "clause 1: pass 0 needs 50; clause 2: pass 1 needs 0; clause 3: grant 4 per pass 0;"
+                + "clause 4: grant 4 per pass 1;");
+        z.estimate(0, 0, 49);
+        z.estimate(0, 1, 49);
+        c.due("a lesser set that would not PASS", 2, z.entering(0, 1, 10));
+        z.estimate(0, 0, -1);
+        c.due("a lesser set without an ESTIMATE", 2, z.entering(0, 1, 10));
+        SchoolBoard six = board(1, 1, "clause 1: pass 0 needs 0; clause 2: pass 1 needs 0; clause 3: pass 2 needs 0;"
+                + "clause 4: pass 3 needs 0; clause 5: pass 4 needs 0; clause 6: pass 5 needs 0; clause 7: grant 9 per pass 0 if passes=6;"
+                + "clause 8: grant 5 per pass 0 if passes<6;");
+        for (int subject = 0; subject < 6; subject++) {
+            six.estimate(0, subject, 1);
+        }
+        c.due("all six for the sake of one", 9, six.entering(0, 6, 0));
+        c.due("its set", 63, six.entering(0, 6, 10));
+        c.due("five aren't worth it", 1, six.entering(0, 5, 10));
         SchoolBoard y = board(1, 1, "clause 1: pass 0 needs 0; clause 2: grant 4 per pass 0; clause 3: teach 0 is 0;");
         y.estimate(0, 0, 0);
         c.due("no hours needed", 4, y.entering(0, 0, 0));
@@ -396,6 +412,9 @@ public final class ChoosingTest {
         SchoolBoard w = voted(1, new int[] {0, 1}, new int[] {2, 3});
         c.due("none", 0, w.sure(0));
         c.due("up to SEATS", 1, w.sure(1));
+        SchoolBoard ten = voted(9, new int[] {3, 3, 3, 3, 3, 3, 3, 3, 3, 3}, new int[] {9, 0, 0, 0, 0, 0, 0, 0, 0, 1});
+        c.due("ten CANDIDATES, nine SEATS", 9, ten.sure(3));
+        c.due("none of another PARTY", 0, ten.sure(0));
         SchoolBoard v = voted(9, new int[] {2, 2}, new int[] {0, 0});
         c.due("up to its CANDIDATES", 2, v.sure(2));
     }

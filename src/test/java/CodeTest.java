@@ -16,6 +16,7 @@ public final class CodeTest {
         written();
         writtenConditions();
         clause();
+        sixtyClauses();
         c.end();
     }
 
@@ -298,6 +299,27 @@ public final class CodeTest {
                 "timer=1 and passes=2 and quarters=3 and subject=4 and mark=5 and poor=9999");
     }
 
+    private static void sixtyClauses() {
+        c.of("31, 32 sixty clauses");
+        SchoolBoard x = new SchoolBoard();
+        x.school(0, 0, 0);
+        for (int part = 0; part < 3; part++) {
+            StringBuilder text = new StringBuilder();
+            for (int number = part * 20 + 1; number <= part * 20 + 20; number++) {
+                text.append("clause ").append(number).append(":grant 1 per head;");
+            }
+            c.due("act " + part, part, Checks.act(x, 0, text.toString()));
+        }
+        c.due("how many", 60, x.clause(7, -1, 0));
+        c.due("the last", 60, x.clause(7, 59, 0));
+        c.due("none behind it", -1, x.clause(7, 60, 0));
+        c.due("its ACT", 2, x.clause(7, 59, 1));
+        c.due("bytes", 9 * 26 + 51 * 27, x.written(7, -1));
+        c.due("the last byte", ';', x.written(7, 9 * 26 + 51 * 27 - 1));
+        c.due("none behind it", -1, x.written(7, 9 * 26 + 51 * 27));
+        c.due("LINES of heads", 60, x.grant(0, 0, 7, 0, 5));
+    }
+
     private static void clause() {
         c.of("32 clause");
         SchoolBoard x = new SchoolBoard();
@@ -311,6 +333,7 @@ public final class CodeTest {
             c.due("ACT " + i, due[i][1], x.clause(i / 3, i % 3, 1));
         }
         c.due("k 3", -1, x.clause(0, 3, 0));
+        c.due("k 60 of YEAR 7", -1, x.clause(7, 60, 0));
         c.due("k -2", -1, x.clause(0, -2, 0));
         c.due("what 2", -1, x.clause(0, 0, 2));
         c.due("what -1", -1, x.clause(0, 0, -1));

@@ -12,6 +12,8 @@ public final class FullBoardTest {
         acts();
         told();
         questions();
+        scatter();
+        questions();
         c.end();
     }
 
@@ -30,7 +32,7 @@ public final class FullBoardTest {
             c.due("street", plain.street(i, 60 - i * 5, i * 6) ? 1 : 0, board.street(i, 60 - i * 5, i * 6) ? 1 : 0);
         }
         for (int i = 0; i < 40; i++) {
-            c.due("enter", plain.enter(i, i < 36 ? 0 : i % 6, 0), board.enter(i, i < 36 ? 0 : i % 6, 0));
+            c.due("enter", plain.enter(i, 0, 0), board.enter(i, 0, 0));
         }
     }
 
@@ -85,6 +87,14 @@ public final class FullBoardTest {
     private static void each(String call, int many, IntBinaryOperator got, IntBinaryOperator want, int of) {
         for (int what = 0; what < many; what++) {
             c.due(call + " of " + of + ", " + what, want.applyAsInt(of, what), got.applyAsInt(of, what));
+        }
+    }
+
+    private static void scatter() {
+        for (int i = 30; i < 40; i++) {
+            int day = 101 + i;
+            int to = i % 6;
+            c.due("enter", plain.enter(i, to, day), board.enter(i, to, day));
         }
     }
 

@@ -39,7 +39,7 @@ public final class LanguageTest extends TreePathScanner<Void, Void> {
     private static final Path SOURCE = Path.of("src/main/java/SchoolBoard.java");
     private static final Set<String> LIBRARY = Set.of("String.length", "String.charAt", "StringBuilder.append",
             "StringBuilder.charAt", "StringBuilder.setLength", "StringBuilder.length", "StringBuilder.toString",
-            "Arrays.fill", "Math.max", "Math.min", "Math.abs", "Integer.bitCount", "Integer.numberOfTrailingZeros");
+            "Arrays.fill", "Math.max", "Math.min", "Math.abs", "Integer.bitCount");
     private static final Set<String> MADE = Set.of("StringBuilder");
 
     private final Trees trees;

@@ -366,6 +366,8 @@ public final class TellingsTest {
         c.due("on 20 as KNOWN on 50", 1, x.on(0, 20, 50));
         c.due("nothing KNOWN on 49", -1, x.on(0, 20, 49));
         c.due("on 799 as KNOWN on 799", 0, x.on(0, 799, 799));
+        c.due("day 800 while ON", -1, x.on(0, 800, 60));
+        c.due("known 800 while ON", -1, x.on(0, 20, 800));
         x.enter(0, -1, 30);
         c.due("on none", -1, x.on(0, 30, 60));
         c.due("the other one", -1, x.on(1, 30, 60));
