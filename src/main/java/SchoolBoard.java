@@ -1429,9 +1429,12 @@ public final class SchoolBoard {
                 return NONE;
             }
             for (int i = 0; i < reader.size; i++) {
-                reader.statements[i].write(pen);
-                statements[size] = reader.statements[i];
-                size++;
+                Clause read = reader.statements[i];
+                if (read != null) {
+                    read.write(pen);
+                    statements[size] = read;
+                    size++;
+                }
             }
             actYears[acts] = year;
             acts++;
@@ -1447,8 +1450,8 @@ public final class SchoolBoard {
             }
             for (int from = 0; from <= year; from++) {
                 for (int i = 0; i < size; i++) {
-                    if (actYears[statements[i].act] == from) {
-                        Clause read = statements[i];
+                    Clause read = statements[i];
+                    if (read != null && actYears[read.act] == from) {
                         rows[year * ROW + read.number] = read.kind == OMIT ? null : read;
                     }
                 }
