@@ -923,7 +923,7 @@ public final class SchoolBoard {
             }
         }
 
-        boolean isTrue(int[] asked, int depth) {
+        private boolean isTrue(int[] asked, int depth) {
             if (depth > DEEPEST) {
                 return false;
             }
@@ -951,7 +951,7 @@ public final class SchoolBoard {
             }
         }
 
-        void writeTo(StringBuilder pen, int depth) {
+        private void writeTo(StringBuilder pen, int depth) {
             if (depth > DEEPEST) {
                 return;
             }

@@ -25,13 +25,7 @@ public final class ReckoningsTest {
     }
 
     private static SchoolBoard board(int children, int schools, String act) {
-        SchoolBoard x = new SchoolBoard();
-        for (int i = 0; i < children; i++) {
-            x.child(-700, i % 10, 2);
-        }
-        for (int i = 0; i < schools; i++) {
-            x.school(i, i, 1000);
-        }
+        SchoolBoard x = Checks.board(children, schools);
         if (!act.isEmpty() && Checks.act(x, 0, act) != 0) {
             c.due("a test's own act, its fault " + x.fault(), 0, -1);
         }

@@ -25,17 +25,6 @@ public final class TellingsTest {
         c.end();
     }
 
-    private static SchoolBoard board(int children, int schools) {
-        SchoolBoard x = new SchoolBoard();
-        for (int i = 0; i < children; i++) {
-            x.child(-700, i % 10, 2);
-        }
-        for (int i = 0; i < schools; i++) {
-            x.school(i, i, 1000);
-        }
-        return x;
-    }
-
     private static void newObject() {
         c.of("1 a new object");
         SchoolBoard x = new SchoolBoard();
@@ -112,7 +101,7 @@ public final class TellingsTest {
 
     private static void street() {
         c.of("5 street");
-        SchoolBoard x = board(1, 0);
+        SchoolBoard x = Checks.board(1, 0);
         c.no("street(-1, 0, 0)", x.street(-1, 0, 0));
         c.no("street(10, 0, 0)", x.street(10, 0, 0));
         c.no("street(0, -1, 0)", x.street(0, -1, 0));
@@ -130,7 +119,7 @@ public final class TellingsTest {
 
     private static void moves() {
         c.of("6 moves");
-        SchoolBoard x = board(1, 1);
+        SchoolBoard x = Checks.board(1, 1);
         x.enter(0, 0, 0);
         c.no("moves(1, 0)", x.moves(1, 0));
         c.no("moves(-1, 0)", x.moves(-1, 0));
@@ -144,7 +133,7 @@ public final class TellingsTest {
 
     private static void enter() {
         c.of("7 enter");
-        SchoolBoard x = board(2, 2);
+        SchoolBoard x = Checks.board(2, 2);
         c.due("enter(2, 0, 0)", -1, x.enter(2, 0, 0));
         c.due("enter(-1, 0, 0)", -1, x.enter(-1, 0, 0));
         c.due("enter(0, 2, 0)", -1, x.enter(0, 2, 0));
@@ -166,7 +155,7 @@ public final class TellingsTest {
 
     private static void enterFull() {
         c.of("7 enter, full");
-        SchoolBoard x = board(3, 1);
+        SchoolBoard x = Checks.board(3, 1);
         x.school(0, 0, 39);
         Checks.act(x, 1, "clause 9: room 1; clause 3: room 500;");
         x.day(100);
@@ -186,7 +175,7 @@ public final class TellingsTest {
 
     private static void shut() {
         c.of("8 shut");
-        SchoolBoard x = board(1, 1);
+        SchoolBoard x = Checks.board(1, 1);
         c.due("shut(1, 0, 0)", -1, x.shut(1, 0, 0));
         c.due("shut(-1, 0, 0)", -1, x.shut(-1, 0, 0));
         c.due("shut(0, -1, 0)", -1, x.shut(0, -1, 0));
@@ -205,7 +194,7 @@ public final class TellingsTest {
 
     private static void mark() {
         c.of("9 mark");
-        SchoolBoard x = board(1, 1);
+        SchoolBoard x = Checks.board(1, 1);
         x.day(20);
         c.due("mark(1, ..)", -1, x.mark(1, 0, 0, 0, 0, 1));
         c.due("from -1", -1, x.mark(0, -1, 0, 0, 0, 1));
@@ -230,7 +219,7 @@ public final class TellingsTest {
 
     private static void grantSpan() {
         c.of("10 grantSpan");
-        SchoolBoard x = board(1, 1);
+        SchoolBoard x = Checks.board(1, 1);
         c.due("child 1", -1, x.grantSpan(1, 0, 0, 0, 0));
         c.due("what 3", -1, x.grantSpan(0, 3, 0, 0, 0));
         c.due("what -1", -1, x.grantSpan(0, -1, 0, 0, 0));
@@ -253,7 +242,7 @@ public final class TellingsTest {
 
     private static void certificate() {
         c.of("10 grantSpan, certificates");
-        SchoolBoard x = board(2, 1);
+        SchoolBoard x = Checks.board(2, 1);
         c.due("no half clause", -2, x.grantSpan(0, 1, 0, 0, 10));
         c.due("not as told comes before", -1, x.grantSpan(0, 1, 0, 10, 0));
         Checks.act(x, 0, "clause 1: half if age>7 and standard=2 and year=1 and day=0 and timer=0;");
@@ -266,7 +255,7 @@ public final class TellingsTest {
         }
         c.due("count(3)", 30, x.count(3));
         c.due("the 31st is NONE, not -2", -1, x.grantSpan(0, 1, 0, 0, 10));
-        SchoolBoard y = board(1, 1);
+        SchoolBoard y = Checks.board(1, 1);
         Checks.act(y, 0, "clause 5: pass 0 needs 1; clause 6: rise 1; clause 7: half if standard=3;");
         y.result(0, 0, 0, 50);
         c.due("STANDARD 2 in its YEAR", -2, y.grantSpan(0, 1, 0, 50, 50));
@@ -277,7 +266,7 @@ public final class TellingsTest {
 
     private static void result() {
         c.of("11 result");
-        SchoolBoard x = board(1, 1);
+        SchoolBoard x = Checks.board(1, 1);
         c.due("child 1", -1, x.result(1, 0, 0, 0));
         c.due("year 1", -1, x.result(0, 1, 0, 0));
         c.due("year -1", -1, x.result(0, -1, 0, 0));
@@ -297,7 +286,7 @@ public final class TellingsTest {
 
     private static void undo() {
         c.of("12 undo");
-        SchoolBoard x = board(1, 1);
+        SchoolBoard x = Checks.board(1, 1);
         c.no("undo(0)", x.undo(0));
         c.no("undo(-1)", x.undo(-1));
         c.no("undo(LOW)", x.undo(LOW));
@@ -324,7 +313,7 @@ public final class TellingsTest {
 
     private static void book() {
         c.of("13 book");
-        SchoolBoard x = board(2, 2);
+        SchoolBoard x = Checks.board(2, 2);
         Checks.act(x, 0, "clause 1: half;");
         x.day(3);
         x.enter(1, 0, 2);
@@ -350,7 +339,7 @@ public final class TellingsTest {
 
     private static void on() {
         c.of("14 on");
-        SchoolBoard x = board(2, 3);
+        SchoolBoard x = Checks.board(2, 3);
         x.day(50);
         x.enter(0, 0, 10);
         x.enter(0, 1, 20);
@@ -380,7 +369,7 @@ public final class TellingsTest {
 
     private static void marked() {
         c.of("15 marked");
-        SchoolBoard x = board(1, 1);
+        SchoolBoard x = Checks.board(1, 1);
         x.day(30);
         x.mark(0, 2, 1, 4, 0, 1);
         x.day(31);

@@ -1,5 +1,17 @@
+import java.util.List;
+
 /** Answers beside what is due, and ACTS fed as texts. */
 final class Checks {
+    /** Makes the same board each time that it's asked. */
+    interface Maker {
+        SchoolBoard make();
+    }
+
+    /** One call, a boolean's answer counted 1 or 0. */
+    interface Call {
+        int of(SchoolBoard x);
+    }
+
     private int wrong;
     private int all;
     private String promise = "";
@@ -32,11 +44,45 @@ final class Checks {
         }
     }
 
+    /** A call that is refused: its answer, and that the board answers behind it as one that never had the call. */
+    void refused(String call, int want, Maker maker, Call what) {
+        SchoolBoard x = maker.make();
+        due(call, want, what.of(x));
+        same(call + " does nothing", State.of(maker.make()), State.of(x));
+    }
+
+    /** Two boards' answers, of which the first that isn't the same is told. */
+    void same(String call, List<String> want, List<String> got) {
+        for (int i = 0; i < want.size() && i < got.size(); i++) {
+            if (!got.get(i).equals(want.get(i))) {
+                text(call, want.get(i), got.get(i));
+                return;
+            }
+        }
+        due(call + ", as many answers", want.size(), got.size());
+    }
+
+    static int bit(boolean answer) {
+        return answer ? 1 : 0;
+    }
+
     void end() {
         System.out.println(wrong == 0 ? "all " + all + " answers are as due" : wrong + " answers are not as due");
         if (wrong != 0) {
             System.exit(1);
         }
+    }
+
+    /** As many CHILDREN (born on -700, of STANDARD 2, each at its STREET) and SCHOOLS (of 1000 feet) as told. */
+    static SchoolBoard board(int children, int schools) {
+        SchoolBoard x = new SchoolBoard();
+        for (int i = 0; i < children; i++) {
+            x.child(-700, i % 10, 2);
+        }
+        for (int i = 0; i < schools; i++) {
+            x.school(i, i, 1000);
+        }
+        return x;
     }
 
     /** Feeds a text, filled up with blanks. */
