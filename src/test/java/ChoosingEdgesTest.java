@@ -868,6 +868,12 @@ public final class ChoosingEdgesTest {
             c.due("HOUSE 1 pays", edge[1] * 25, x.rate(edge[0], 11));
         }
         c.due("rate of 16801", -1, x.rate(16801, 0));
+        SchoolBoard pound = new SchoolBoard();
+        pound.house(1);
+        for (int pence = 0; pence <= 480; pence++) {
+            c.due("rate of " + pence + " of one pound", pence, pound.rate(pence, 0));
+        }
+        c.due("rate of 481 of one pound", -1, pound.rate(481, 0));
     }
 
     private static void rateSmall() {

@@ -483,6 +483,19 @@ public final class ReckoningEdgesTest {
         c.due("in another YEAR", 0, none.passes(0, 0, 0, 150));
         none.undo(number);
         c.due("UNDONE", 0, none.passes(0, 1, 1, 150));
+        c.of("19 PASSES: of a SUBJECT's RESULTS the one KNOWN that was told last holds");
+        SchoolBoard again = board(1, 1, 10, "clause 1:pass 0 needs 50;");
+        again.result(0, 0, 0, 50);
+        again.day(20);
+        int worse = again.result(0, 0, 0, 49);
+        again.day(30);
+        again.undo(worse);
+        int[][] days = {{9, 0}, {10, 1}, {19, 1}, {20, 0}, {29, 0}, {30, 1}};
+        for (int[] day : days) {
+            c.due("50 from 10 on, 49 from 20 to 29, by " + day[0], day[1], again.passes(0, 0, 0, day[0]));
+        }
+        again.result(0, 0, 1, 0);
+        c.due("another SUBJECT's told behind it", 1, again.passes(0, 0, 0, 30));
     }
 
     /** Whether a mark of 50 in SUBJECT 4 in YEAR 1 is a PASS by one IF. */
@@ -690,6 +703,13 @@ public final class ReckoningEdgesTest {
         SchoolBoard none = board(1, 1, 99, "clause 4:grant 5 per child;clause 5:attend 1 if age>7;");
         none.enter(0, 0, 99);
         c.due("no QUARTERS at all", 5, none.grant(0, 0, 0, 99, 4));
+        c.of("20 CHILD that QUALIFIES: by the first \"attend\" whose IF holds");
+        c.due("the lesser NUMBER's 401", 0,
+                fullYear(1, "clause 5:attend 1;clause 4:grant 5 per child;clause 3:attend 401;").grant(0, 0, 0, 99, 4));
+        c.due("the greater NUMBER's 1", 5,
+                fullYear(1, "clause 5:attend 1;clause 4:grant 5 per child;clause 3:attend 401 if age>7;").grant(0, 0, 0, 99, 4));
+        c.due("none whose IF holds", 5,
+                fullYear(1, "clause 4:grant 5 per child;clause 3:attend 401 if age>7;").grant(0, 0, 0, 99, 4));
         c.of("20 CHILD that QUALIFIES: for LINES per pass too, not those per head");
         SchoolBoard y = fullYear(1, "clause 3:attend 401;clause 4:grant 5 per child;clause 5:grant 7 per pass 0;"
                 + "clause 6:pass 0 needs 0;clause 7:grant 1 per head;");

@@ -70,6 +70,13 @@ public final class TellingEdgesTest {
         }
         c.due("a poll, ballot()", -1, y.ballot());
         c.due("NONE", -1, SchoolBoard.NONE);
+        c.of("1 an object is used for at most 512 calls");
+        SchoolBoard z = new SchoolBoard();
+        for (int call = 1; call < 512; call++) {
+            z.day(call);
+        }
+        c.due("the 512th", 511, z.count(0));
+        c.due("another object is a new one", 0, new SchoolBoard().count(0));
     }
 
     private static void day() {
