@@ -572,6 +572,17 @@ public final class ChoosingEdgesTest {
         fewer.site(20, 0);
         fewer.site(10, 0);
         c.due("one of a greater number rather than two", 4, fewer.sites(10, 1));
+        c.of("37 SITES: each SITE at its own x and y");
+        int[][] at10 = {{0, 60}, {60, 0}, {20, 30}, {30, 20}, {30, 31}, {5, 5}, {5, 6}, {55, 44}, {44, 55}, {60, 60}};
+        SchoolBoard apart = new SchoolBoard();
+        apart.child(0, 8, 0);
+        for (int[] place : at10) {
+            apart.site(place[0], place[1]);
+        }
+        for (int i = 0; i < 10; i++) {
+            apart.street(8, at10[i][0], at10[i][1]);
+            c.due("a STREET where SITE " + i + " is", 1 << i, apart.sites(0, 1));
+        }
         SchoolBoard ten = sited(10);
         ten.street(0, 9, 0);
         SchoolBoard last = new SchoolBoard();
@@ -690,6 +701,20 @@ public final class ChoosingEdgesTest {
         c.of("41 heap: each BALLOT has its own");
         c.due("5 of 5", 0, x.heap(1, 0, 5));
         c.due("votes of 0", 5, x.candidateOf(0, 1));
+        c.of("41 heap: of 60 BALLOTS on 10 CANDIDATES each its own");
+        SchoolBoard full = polled(9, 10, 0);
+        for (int ballot = 0; ballot < 60; ballot++) {
+            full.ballot();
+        }
+        c.due("the last BALLOT, the last CANDIDATE", 2, full.heap(59, 9, 7));
+        c.due("the last BALLOT, the first CANDIDATE", 1, full.heap(59, 0, 1));
+        c.due("the last BALLOT, the last CANDIDATE again", 6, full.heap(59, 9, 2));
+        c.due("the BALLOT ahead of it, the last CANDIDATE", 4, full.heap(58, 9, 5));
+        c.due("the first BALLOT, the first CANDIDATE", 0, full.heap(0, 0, 9));
+        int[] last = {10, 0, 0, 0, 0, 0, 0, 0, 0, 7};
+        for (int candidate = 0; candidate < 10; candidate++) {
+            c.due("votes of " + candidate + " of ten", last[candidate], full.candidateOf(candidate, 1));
+        }
         c.of("41 heap: a BALLOT and a CANDIDATE that are there");
         c.due("the last of both", 4, x.heap(2, 2, 1));
         c.refused("ballot -1", -1, State::board, y -> y.heap(-1, 0, 0));

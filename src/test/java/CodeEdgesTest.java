@@ -504,6 +504,10 @@ public final class CodeEdgesTest {
         bracketed("not(not age<1 or day>2)", "not ((not " + a + ") or " + b + ")");
         bracketed("not((age<1 or day>2)and year=3)", "not ((" + a + " or " + b + ") and " + d + ")");
         bracketed("not(age<1 or day>2 and year=3)", "not (" + a + " or (" + b + " and " + d + "))");
+        c.of("31 WRITTEN: as many in one IF as 800 bytes hold");
+        bracketed("day=1" + " or day=1".repeat(85), "day=1" + " or day=1".repeat(85));
+        bracketed("day=1" + " and day=1".repeat(75), "day=1" + " and day=1".repeat(75));
+        bracketed("(day=1 or age<2)" + "and(day=1 or age<2)".repeat(40), "(day=1 or age<2)" + "and(day=1 or age<2)".repeat(40));
         c.of("31 WRITTEN: what's WRITTEN is an ACT that is WRITTEN the same");
         String all = "clause 1:fee 2 if not((age<1 or day>2)and not year=3)or poor=1 and timer=0;";
         c.text("once", all, rewritten(all));

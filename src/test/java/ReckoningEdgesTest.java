@@ -11,6 +11,7 @@ public final class ReckoningEdgesTest {
         quartersIf();
         quartersIfSpans();
         signs();
+        manySigns();
         yearly();
         standardAsked();
         standardRises();
@@ -289,6 +290,22 @@ public final class ReckoningEdgesTest {
             c.due("all three by or", Checks.bit(isA || isB || isD), met(0, 0, a + " or " + b + " or " + d));
             c.due("all three by and", Checks.bit(isA && isB && isD), met(0, 0, a + " and " + b + " and " + d));
         }
+    }
+
+    private static void manySigns() {
+        c.of("16 ANY: as many in one IF as 800 bytes hold");
+        c.due("the last of 80 by or", 1, met(0, 0, "age=1 or ".repeat(79) + "age=7"));
+        c.due("none of 80 by or", 0, met(0, 0, "age=1 or ".repeat(79) + "age=8"));
+        c.due("all of 70 by and", 1, met(0, 0, "age=7 and ".repeat(69) + "age=7"));
+        c.due("all of 70 by and but the last", 0, met(0, 0, "age=7 and ".repeat(69) + "age=8"));
+        c.of("16 ANY: ten open in one another");
+        String deep = "(age=1 or age=7 and ".repeat(10) + "age=7" + ")".repeat(10);
+        c.due("ten (, all hold", 1, met(0, 0, deep));
+        c.due("ten (, the innermost doesn't", 0, met(0, 0, deep.replace("age=7)", "age=8)")));
+        c.due("five not(", 0, met(0, 0, "not(age=1 or age=7 and ".repeat(5) + "age=7" + ")".repeat(5)));
+        c.due("five not(, the innermost doesn't hold", 1, met(0, 0, "not(age=1 or age=7 and ".repeat(5) + "age=8" + ")".repeat(5)));
+        c.due("ten not", 1, met(0, 0, "not ".repeat(10) + "age=7"));
+        c.due("nine not", 0, met(0, 0, "not ".repeat(9) + "age=7"));
     }
 
     private static void yearly() {
@@ -656,6 +673,16 @@ public final class ReckoningEdgesTest {
             c.due("3 heads, " + covers + " covered", due[covers], x.grant(0, 0, 0, 99, 4));
             c.due("AVERAGE stays", 3, x.grant(0, 0, 0, 99, 0));
         }
+        c.of("20 LINES per head: AVERAGE, though there are more CHILDREN and STAFF covers more");
+        int[] heads = {0, 10, 20, 20, 20};
+        for (int covers = 0; covers < 5; covers++) {
+            SchoolBoard x = fullYear(4, "clause 3:grant 10 per head;clause 4:staff " + covers + ";");
+            x.mark(0, 0, 0, 99, 1, 0);
+            x.mark(1, 0, 0, 98, 1, 0);
+            c.due("AVERAGE of four", 2, x.grant(0, 0, 0, 99, 0));
+            c.due("four CHILDREN", 4, x.grant(0, 0, 0, 99, 2));
+            c.due("2 heads of 4, " + covers + " covered", heads[covers], x.grant(0, 0, 0, 99, 4));
+        }
         c.of("20 STAFF: the least \"staff\" NUMBER; none: all");
         SchoolBoard two = fullYear(3, "clause 3:grant 10 per head;clause 9:staff 1;clause 8:staff 2;");
         c.due("the least NUMBER's", 2, two.grant(0, 0, 0, 99, 3));
@@ -790,6 +817,16 @@ public final class ReckoningEdgesTest {
         SchoolBoard two = fullYear(1, "clause 3:grant 20 per head;clause 9:cap 1;clause 8:cap 15;");
         c.due("15", 15, two.grant(0, 0, 0, 99, 4));
         c.due("its LINE's clause", 8, two.line(0, 0, 0, 99, 1, 1));
+        c.of("20 GRANT: none but a \"cap\" is one");
+        SchoolBoard others = fullYear(1, "clause 3:grant 20 per head;clause 10:attend 0;clause 11:pass 0 needs 0;clause 12:rise 0;"
+                + "clause 13:fee 0;clause 14:room 0;clause 15:staff 9;clause 16:step 0;clause 17:pay 0 is 0;clause 18:teach 0 is 0;"
+                + "clause 19:small 0;clause 20:excuse 0 as 0;");
+        c.due("one clause of each other kind", 20, others.grant(0, 0, 0, 99, 4));
+        c.due("LINES", 1, others.grant(0, 0, 0, 99, 5));
+        String[] bodies = {"attend 0", "fee 0", "room 0", "step 0", "small 0", "rise 0", "half"};
+        for (String body : bodies) {
+            c.due(body, 20, fullYear(1, "clause 3:grant 20 per head;clause 4:" + body + ";").grant(0, 0, 0, 99, 4));
+        }
         c.of("20 GRANT: AVERAGE 0 takes all");
         SchoolBoard none = board(1, 1, 99, "clause 1:grant 7 per child;clause 2:cap 50;");
         none.enter(0, 0, 99);

@@ -752,6 +752,20 @@ public final class TellingEdgesTest {
         }
         c.due("what -1", -1, x.book(0, -1));
         c.due("what 4", -1, x.book(0, 4));
+        c.of("13 book: each number's own DAY told and DAY UNDONE");
+        SchoolBoard days = Checks.board(1, 1);
+        for (int n = 0; n < 5; n++) {
+            days.day(10 * n + 1);
+            days.shut(0, n, n);
+        }
+        for (int n = 0; n < 5; n += 2) {
+            days.day(100 + n);
+            days.undo(n);
+        }
+        for (int n = 0; n < 5; n++) {
+            c.due("DAY told of " + n, 10 * n + 1, days.book(n, 2));
+            c.due("DAY UNDONE of " + n, n % 2 == 0 ? 100 + n : -1, days.book(n, 3));
+        }
         c.of("13 book: the SCHOOL of a HOLIDAY, an ENTRY's CHILD");
         SchoolBoard y = Checks.board(3, 3);
         y.shut(2, 0, 0);
@@ -775,6 +789,14 @@ public final class TellingEdgesTest {
         c.due("child -1", -1, x.on(-1, 0, 0));
         c.due("the CHILD behind the last", -1, x.on(2, 0, 0));
         c.due("none without an ENTRY", -1, x.on(1, 0, 0));
+        c.of("14 on: more CHILDREN than SCHOOLS, more SCHOOLS than CHILDREN");
+        SchoolBoard many = Checks.board(40, 1);
+        many.enter(39, 0, 0);
+        c.due("the fortieth CHILD", 0, many.on(39, 0, 0));
+        c.due("the one ahead of it", -1, many.on(38, 0, 0));
+        SchoolBoard few = Checks.board(1, 6);
+        few.enter(0, 5, 0);
+        c.due("the sixth SCHOOL", 5, few.on(0, 0, 0));
     }
 
     private static void onLastEntry() {

@@ -24,6 +24,8 @@ public final class WhoseAndWhenTest {
         enteringAskedFor();
         worthByDays();
         sitesOfSchools();
+        teachersOwnYears();
+        lastDayAnew();
         c.end();
     }
 
@@ -433,6 +435,76 @@ public final class WhoseAndWhenTest {
             for (int at = 0; at < 6; at++) {
                 x.street(7, places[at][0], places[at][1]);
                 c.due(count + " SCHOOLS, a STREET where the " + at + "th is", at < count ? 0 : -1, x.sites(0, 0));
+            }
+        }
+    }
+
+    private static void teachersOwnYears() {
+        SchoolBoard x = Checks.board(0, 2);
+        act(x, 0, "clause 1:pay 1 is 10;clause 2:pay 2 is 20;clause 3:staff 5;");
+        int[] first = {0, 2, 3, 7};
+        for (int teacher = 0; teacher < 4; teacher++) {
+            x.day(Math.max(1, first[teacher] * 100));
+            x.teacher(teacher % 2);
+        }
+        for (int teacher = 0; teacher < 4; teacher++) {
+            for (int year = 0; year < 8; year++) {
+                c.of("26 proof: for a YEAR from each PUPIL TEACHER's own first on");
+                c.due("of " + teacher + " for YEAR " + year, year >= first[teacher] ? 1 : 0, Checks.bit(x.proof(teacher, year, 9)));
+            }
+        }
+        for (int teacher = 0; teacher < 4; teacher++) {
+            for (int year = 0; year < 8; year++) {
+                int step = Math.min(5, year - first[teacher] + 1);
+                c.of("27 teacherOf: from each PUPIL TEACHER's own first YEAR on");
+                c.due("STEP of " + teacher + " in YEAR " + year, step < 1 ? -1 : step, x.teacherOf(teacher, year, 0));
+                c.due("PAY of " + teacher + " in YEAR " + year, step < 1 ? -1 : step < 3 ? 10 * step : 0, x.teacherOf(teacher, year, 1));
+            }
+        }
+        int[][] due = {{10, 10, 10, 15, 15, 15, 15, 15}, {5, 5, 10, 10, 10, 10, 10, 15}};
+        c.of("20 STAFF: the PUPIL TEACHERS there in the GRANT's YEAR");
+        for (int school = 0; school < 2; school++) {
+            for (int year = 0; year < 8; year++) {
+                c.due("SCHOOL " + school + " in YEAR " + year, due[school][year], x.grant(school, year, 0, 799, 3));
+            }
+        }
+    }
+
+    private static void lastDayAnew() {
+        c.of("20 SCHOOL's DAYS that aren't shut: of the YEAR asked for, whichever was asked ahead of it");
+        SchoolBoard x = Checks.board(1, 2);
+        act(x, 0, "clause 1:staff 4;");
+        act(x, 1, "clause 1:staff 7;");
+        x.shut(0, 99, 99);
+        x.shut(1, 100, 109);
+        int[][] due = {{99, 100, 100}, {100, 90, 100}};
+        for (int turn = 0; turn < 2; turn++) {
+            for (int school = 0; school < 2; school++) {
+                for (int year = 2; year >= 0; year--) {
+                    c.due("SCHOOL " + school + " in YEAR " + year, due[school][year], x.grant(school, year, 0, 0, 1));
+                    c.due("by the CODE of 1", 7, x.grant(school, year, 1, 1, 3));
+                    c.due("by the CODE of 0", 4, x.grant(school, year, 0, 1, 3));
+                    c.due("and by that of 1 again", 7, x.grant(school, year, 1, 1, 3));
+                }
+            }
+        }
+        c.of("17 QUARTERS' IF: timer, poor, excused of the CHILD asked for, whoever was asked ahead of it");
+        String[] names = {"excused", "timer", "poor"};
+        for (int what = 0; what < 3; what++) {
+            SchoolBoard y = Checks.board(2, 1);
+            act(y, 0, "clause 1:count present as 1 if " + names[what] + "=1;clause 2:half;");
+            y.day(99);
+            for (int child = 0; child < 2; child++) {
+                y.enter(child, 0, 0);
+                y.mark(child, 0, 0, 99, 1, 1);
+            }
+            y.grantSpan(0, what, 0, 98, 99);
+            y.grantSpan(1, what, 0, 0, 0);
+            for (int turn = 0; turn < 2; turn++) {
+                c.due(names[what] + " on 98, 99", 4, y.yearly(0, 0, 0, 99));
+                c.due(names[what] + " on 0", 2, y.yearly(1, 0, 0, 99));
+                c.due(names[what] + ", CHILD 0 on 99", 1, y.quarters(0, 99, 0, 0, 99));
+                c.due(names[what] + ", CHILD 1 on 99", 0, y.quarters(1, 99, 0, 0, 99));
             }
         }
     }
