@@ -923,31 +923,32 @@ public final class SchoolBoard {
             }
         }
 
-        private boolean isTrue(int[] asked, int depth) {
-            if (depth > DEEPEST) {
+        private static boolean isTrue(Node node, int[] asked, int depth) {
+            if (node == null || depth > DEEPEST) {
                 return false;
             }
-            switch (kind) {
+            switch (node.kind) {
                 case OR:
-                    for (Node part = first; part != null; part = part.after) {
-                        if (part.isTrue(asked, depth + 1)) {
+                    for (Node part = node.first; part != null; part = part.after) {
+                        if (isTrue(part, asked, depth + 1)) {
                             return true;
                         }
                     }
                     return false;
                 case AND:
-                    for (Node part = first; part != null; part = part.after) {
-                        if (!part.isTrue(asked, depth + 1)) {
+                    for (Node part = node.first; part != null; part = part.after) {
+                        if (!isTrue(part, asked, depth + 1)) {
                             return false;
                         }
                     }
                     return true;
                 case NOT:
-                    return first != null && !first.isTrue(asked, depth + 1);
+                    return !isTrue(node.first, asked, depth + 1);
                 default:
-                    int place = kind - HALF;
+                    int place = node.kind - HALF;
                     int there = place >= 0 && place < asked.length ? asked[place] : 0;
-                    return sign == '<' ? there < value : sign == '>' ? there > value : there == value;
+                    return node.sign == '<' ? there < node.value
+                            : node.sign == '>' ? there > node.value : there == node.value;
             }
         }
 
@@ -1041,7 +1042,7 @@ public final class SchoolBoard {
         }
 
         boolean isMet(int[] asked) {
-            return when == null || when.isTrue(asked, 0);
+            return when == null || Node.isTrue(when, asked, 0);
         }
 
         void write(StringBuilder pen) {
@@ -1488,7 +1489,7 @@ public final class SchoolBoard {
             int end = endOf(year, kind);
             for (int i = firstOf(year, kind); i < end; i++) {
                 Clause there = ordered[i];
-                if (there != null && there.isFor(mask) && (there.when == null || there.when.isTrue(asked, 0))) {
+                if (there != null && there.isFor(mask) && (there.when == null || Node.isTrue(there.when, asked, 0))) {
                     return there.value;
                 }
             }

@@ -11,6 +11,7 @@ public final class ChoosingEdgesTest {
         enteringHours();
         enteringPence();
         enteringIf();
+        enteringOmitted();
         enteringLeastRow();
         untaught();
         officerAsked();
@@ -266,6 +267,23 @@ public final class ChoosingEdgesTest {
         c.due("day, half, excused", 5, entered("day=0 and half=0 and excused=0", -700, 0, 0, 799));
     }
 
+    private static void enteringOmitted() {
+        c.of("34 ENTERING: \"grants\" and \"teach\" of TODAY's CODE, none that was omitted");
+        for (int omitted = 10; omitted < 13; omitted++) {
+            SchoolBoard x = board(1, TWO + "clause 10:grant 1 per pass 0;clause 11:grant 2 per pass 0;clause 12:grant 4 per pass 0;");
+            estimates(x, 0, 9);
+            Checks.act(x, 0, "omit " + omitted + ";");
+            c.due("without " + omitted, 7 - (1 << omitted - 10), x.entering(0, 9, 0));
+            Checks.act(x, 0, "omit 10;omit 11;omit 12;");
+            c.due("without all, behind " + omitted, 0, x.entering(0, 9, 0));
+        }
+        SchoolBoard y = board(1, TWO + "clause 10:grant 1 per pass 0;clause 11:teach 0 is 3;");
+        estimates(y, 0, 9);
+        c.due("3 hours, 2 there", 0, y.entering(0, 2, 0));
+        Checks.act(y, 0, "omit 11;");
+        c.due("1 hour, 2 there", 1, y.entering(0, 2, 0));
+    }
+
     private static void rows(String what, SchoolBoard x, int hours, int... sets) {
         for (int child = 0; child < sets.length; child++) {
             c.due(what + ", CHILD " + child, sets[child], x.entering(0, hours, 10 + child));
@@ -447,6 +465,17 @@ public final class ChoosingEdgesTest {
         c.due("its minutes", 6, x.officer(8, 2));
         c.of("35 OFFICER: of STREETS with CHILDREN");
         c.due("STREET 1 has none", 0, x.officer(8, 11));
+        SchoolBoard far = board(3, "omit 1;");
+        far.moves(0, 9);
+        far.moves(1, 3);
+        far.moves(2, 3);
+        far.street(0, 60, 60);
+        far.street(9, 2, 3);
+        c.due("STREETS 3 and 9 alone: WORTH", 12, far.officer(16, 0));
+        c.due("STREETS 3 and 9 alone: the set", 520, far.officer(16, 1));
+        c.due("STREETS 3 and 9 alone: minutes", 16, far.officer(2000, 2));
+        c.due("STREET 3 alone", 8, far.officer(15, 1));
+        c.due("STREET 0, from which all moved", 0, far.officer(15, 10));
         SchoolBoard none = board(1, "clause 1:count present as 2;");
         none.mark(0, 0, 0, 0, 1, 1);
         c.due("nothing lacks: no STREET", 0, none.officer(2000, 1));
@@ -810,6 +839,8 @@ public final class ChoosingEdgesTest {
         c.due("0 behind 1, 1", 0, voted(2, behind, 1, 1, 0, 0).sure(0));
         c.due("1 behind 1, 1", 0, voted(2, behind, 1, 1, 0, 1).sure(0));
         c.due("2 behind 1, 1", 1, voted(2, behind, 1, 1, 2, 0).sure(0));
+        c.due("6 as 3, 3 with 5 beside them", 1, voted(2, new int[] {1, 0, 0}, 5, 6, 0).sure(0));
+        c.due("6 as 2, 2, 2 with 3 beside them, three SEATS", 2, voted(3, new int[] {0, 0, 1, 0}, 0, 6, 3, 0).sure(0));
         c.of("43 SURE: others' votes as they are");
         c.due("the other PARTY beside 6, 0", 2, voted(3, ahead, 6, 0, 1, 1).sure(1));
         c.due("the other PARTY beside 3, 3", 1, voted(3, ahead, 3, 3, 1, 1).sure(1));

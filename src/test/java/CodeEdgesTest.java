@@ -356,6 +356,15 @@ public final class CodeEdgesTest {
         c.due("a not is closed behind its ONE", -1,
                 Checks.faultOf(start + nine + "not age<1 and not age<1" + shut + ";"));
         c.due("a not isn't closed ahead of it", start.length() + 9 + 4, Checks.faultOf(start + nine + "not (age<1)" + shut + ";"));
+        for (String word : List.of(" or ", " and ")) {
+            String second = start + nine + "age<1" + word;
+            c.due("a tenth behind" + word, -1, Checks.faultOf(second + "(age<1)" + shut + ";"));
+            c.due("a tenth not behind" + word, -1, Checks.faultOf(second + "not age<1" + shut + ";"));
+            c.due("an eleventh behind" + word, second.length() + 1, Checks.faultOf(second + "((age<1))" + shut + ";"));
+            c.due("an eleventh, a not, behind" + word, second.length() + 1, Checks.faultOf(second + "(not age<1)" + shut + ";"));
+            String third = second + "age<1 and age<1 or age<1" + word;
+            c.due("an eleventh further behind" + word, third.length() + 4, Checks.faultOf(third + "not (age<1)" + shut + ";"));
+        }
         c.due("a later statement begins anew", -1,
                 Checks.faultOf(start + "(" + nine + "age<1" + shut + ");clause 2:half if not " + nine + "age<1" + shut + ";"));
     }
@@ -411,6 +420,10 @@ public final class CodeEdgesTest {
         c.due("five digits at the end", 13, Checks.faultOf("clause 1:cap 99999"));
         c.due("a word at the end is whole", 9, Checks.faultOf("clause 1:ca"));
         c.due("a word and more letters", 9, Checks.faultOf("clause 1:capx 1;"));
+        c.due("a name and another one in one word", 17, Checks.faultOf("clause 1:half if standardday<1;"));
+        c.due("the same that stand apart", 26, Checks.faultOf("clause 1:half if standard day<1;"));
+        c.due("another such word", 17, Checks.faultOf("clause 1:half if quarterssubject<1;"));
+        c.due("the whole of a word and less", 17, Checks.faultOf("clause 1:half if quarter<1;"));
         c.due("digits end a word", -1, Checks.faultOf("clause1:cap1;"));
         c.due("a word ends digits", -1, Checks.faultOf("clause 1:excuse 1as 1if age<1or age<2and age<3;"));
         c.due("signs end both", -1, Checks.faultOf("clause 1:half if(age<1)or(not(age<2));"));

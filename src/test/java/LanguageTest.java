@@ -19,6 +19,7 @@ import com.sun.source.util.Trees;
 import java.io.IOException;
 import java.nio.file.Files;
 import java.nio.file.Path;
+import java.util.ArrayList;
 import java.util.HashMap;
 import java.util.HashSet;
 import java.util.LinkedHashMap;
@@ -48,6 +49,8 @@ public final class LanguageTest extends TreePathScanner<Void, Void> {
     private final Map<String, Set<String>> calls = new LinkedHashMap<>();
     private final Set<String> publicNames = new HashSet<>();
     private final Set<String> otherNames = new HashSet<>();
+    private final Set<String> privates = new HashSet<>();
+    private final Set<String> statics = new HashSet<>();
     private int classes;
     private String method = "a field";
 
@@ -94,11 +97,26 @@ public final class LanguageTest extends TreePathScanner<Void, Void> {
                 faults.add("rule 1: another method is called " + name);
             }
         }
+        lookAtRecursion();
         Map<String, Integer> deep = new HashMap<>();
         for (String caller : calls.keySet()) {
             int depth = depth(caller, deep, new HashSet<>());
             if (depth > 8) {
                 faults.add("rule 11: " + depth + " calls deep from " + caller);
+            }
+        }
+    }
+
+    /** Rule 8: a private static method that calls itself, or private methods that call one another. */
+    private void lookAtRecursion() {
+        for (String caller : calls.keySet()) {
+            if (!goesRound(caller)) {
+                continue;
+            }
+            boolean isByOthers = calls.get(caller).stream()
+                    .anyMatch(called -> !called.equals(caller) && reached(called).contains(caller));
+            if (!privates.contains(caller) || !isByOthers && !statics.contains(caller)) {
+                faults.add("rule 8: recursion of " + caller);
             }
         }
     }
@@ -124,18 +142,19 @@ public final class LanguageTest extends TreePathScanner<Void, Void> {
     }
 
     private boolean goesRound(String caller) {
+        return reached(caller).contains(caller);
+    }
+
+    private Set<String> reached(String caller) {
         Set<String> seen = new HashSet<>();
-        List<String> next = new java.util.ArrayList<>(calls.getOrDefault(caller, Set.of()));
+        List<String> next = new ArrayList<>(calls.getOrDefault(caller, Set.of()));
         while (!next.isEmpty()) {
             String called = next.remove(next.size() - 1);
-            if (called.equals(caller)) {
-                return true;
-            }
             if (seen.add(called)) {
                 next.addAll(calls.getOrDefault(called, Set.of()));
             }
         }
-        return false;
+        return seen;
     }
 
     @Override
@@ -179,6 +198,12 @@ public final class LanguageTest extends TreePathScanner<Void, Void> {
         method = element.getEnclosingElement() + "." + element;
         calls.putIfAbsent(method, new HashSet<>());
         boolean isPublic = element.getModifiers().contains(Modifier.PUBLIC);
+        if (element.getModifiers().contains(Modifier.PRIVATE)) {
+            privates.add(method);
+        }
+        if (element.getModifiers().contains(Modifier.STATIC)) {
+            statics.add(method);
+        }
         if (element.getKind() == ElementKind.METHOD) {
             (isPublic ? publicNames : otherNames).add(element.getSimpleName().toString());
         }

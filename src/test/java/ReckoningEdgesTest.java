@@ -1139,6 +1139,17 @@ public final class ReckoningEdgesTest {
         x.proof(0, 2, 0);
         c.due("49, 50, 0", 2, x.teacherOf(0, 3, 0));
         c.due("of its YEAR alone", 2, x.teacherOf(0, 4, 0));
+        SchoolBoard two = board(1, 2, 0, "clause 1:step 50;");
+        two.teacher(0);
+        two.teacher(1);
+        two.proof(0, 0, 90);
+        two.proof(1, 0, 0);
+        c.due("90 of the one ahead of it", 1, two.teacherOf(1, 1, 0));
+        two.proof(1, 0, 50);
+        two.proof(1, 0, 10);
+        c.due("0, 50, 10 of the second", 2, two.teacherOf(1, 1, 0));
+        two.proof(0, 0, 10);
+        c.due("90, 10 of the first", 2, two.teacherOf(0, 1, 0));
         c.of("26 proof: each PUPIL TEACHER has PROOFS of its own");
         SchoolBoard many = taught(20);
         many.day(799);

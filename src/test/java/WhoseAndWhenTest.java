@@ -26,6 +26,16 @@ public final class WhoseAndWhenTest {
         sitesOfSchools();
         teachersOwnYears();
         lastDayAnew();
+        certificateOfEachChild();
+        excusedToCome();
+        standardFromNothing();
+        passesOfEachChild();
+        passesByEachCode();
+        grantOfLaterYear();
+        lineByCode();
+        lineAnew();
+        feesOfEachYear();
+        quartersAsByNow();
         c.end();
     }
 
@@ -403,6 +413,7 @@ public final class WhoseAndWhenTest {
         x.grantSpan(1, 1, 0, 102, 110);
         x.grantSpan(1, 2, 0, 101, 110);
         c.due("a STREET of one ON none", 0, x.officer(0, 10));
+        c.due("the other CHILD's STANDARD, asked for ahead of it", 6, x.standard(0, 1, 104));
         return x.officer(0, 13);
     }
 
@@ -507,5 +518,212 @@ public final class WhoseAndWhenTest {
                 c.due(names[what] + ", CHILD 1 on 99", 0, y.quarters(1, 99, 0, 0, 99));
             }
         }
+    }
+
+    private static void certificateOfEachChild() {
+        c.of("10 grantSpan: a CERTIFICATE by each CHILD's own STANDARD and AGE");
+        SchoolBoard x = new SchoolBoard();
+        act(x, 0, "clause 1:half if standard=4 and age=9;clause 2:rise 0 if year=0 and age=9;");
+        x.child(-700, 0, 3);
+        x.child(-900, 0, 4);
+        x.child(-850, 0, 3);
+        c.due("CHILD 0, of STANDARD 3", -2, x.grantSpan(0, 1, 0, 20, 30));
+        c.due("CHILD 1, of STANDARD 4 and AGE 9", 0, x.grantSpan(1, 1, 0, 20, 30));
+        c.due("CHILD 1 on 100, of AGE 10", -2, x.grantSpan(1, 1, 0, 100, 130));
+        c.due("CHILD 2 on 99, of STANDARD 3", -2, x.grantSpan(2, 1, 0, 99, 130));
+        c.due("CHILD 2 on 100, of STANDARD 4 and AGE 9", 1, x.grantSpan(2, 1, 0, 100, 130));
+        c.due("CHILD 0 on 200, still of STANDARD 3", -2, x.grantSpan(0, 1, 0, 200, 230));
+    }
+
+    private static void excusedToCome() {
+        c.of("16 QUARTERS of a HALF on DAYS behind TODAY and behind the one by which it's KNOWN");
+        SchoolBoard x = Checks.board(2, 2);
+        act(x, 0, "clause 1:excuse 3 as 2;");
+        x.day(20);
+        x.enter(1, 1, 10);
+        x.day(30);
+        x.grantSpan(1, 0, 3, 15, 60);
+        x.shut(1, 50, 51);
+        int[][] due = {{14, 0}, {15, 2}, {30, 2}, {31, 2}, {40, 2}, {49, 2}, {50, 0}, {51, 0}, {52, 2}, {60, 2}, {61, 0}};
+        for (int[] one : due) {
+            c.due("DAY " + one[0] + " as KNOWN by 30", one[1], x.quarters(1, one[0], 0, 0, 30));
+            c.due("DAY " + one[0] + " as KNOWN by 29", 0, x.quarters(1, one[0], 0, 0, 29));
+            c.due("DAY " + one[0] + " as KNOWN by 799", one[1], x.quarters(1, one[0], 1, 0, 799));
+        }
+    }
+
+    private static void standardFromNothing() {
+        c.of("19 PASSES of a CHILD of STANDARD 0");
+        SchoolBoard x = new SchoolBoard();
+        act(x, 0, "clause 1:pass 0 needs 0;clause 2:rise 1;");
+        x.child(-700, 0, 3);
+        x.child(-700, 0, 0);
+        x.result(1, 0, 0, 0);
+        c.due("of 0 marks", 1, x.passes(1, 0, 0, 0));
+        c.due("without a RESULT", 0, x.passes(0, 0, 0, 0));
+        c.of("18 STANDARD: 0 rises as any");
+        c.due("YEAR 0", 0, x.standard(1, 0, 0));
+        c.due("YEAR 1", 1, x.standard(1, 1, 0));
+        c.due("the other CHILD", 3, x.standard(0, 1, 0));
+    }
+
+    private static void passesOfEachChild() {
+        c.of("19 PASSES' IF: each CHILD's own age, standard, mark, timer, poor");
+        SchoolBoard x = new SchoolBoard();
+        act(x, 0, "clause 1:pass 0 needs 0 if standard=1;clause 2:pass 1 needs 0 if age=8;clause 3:pass 2 needs 0 if mark=31;"
+                + "clause 4:pass 3 needs 0 if timer=1;clause 5:pass 4 needs 0 if poor=1;clause 6:half;");
+        int[] due = {2, 1 + 8, 16, 4};
+        for (int child = 0; child < 4; child++) {
+            x.child(new int[] {-800, -700, -600, -500}[child], 0, new int[] {0, 1, 2, 4}[child]);
+            for (int subject = 0; subject < 5; subject++) {
+                x.result(child, 0, subject, child == 3 ? 31 : 30);
+            }
+        }
+        x.grantSpan(1, 1, 0, 99, 99);
+        x.grantSpan(2, 2, 0, 99, 99);
+        for (int turn = 0; turn < 2; turn++) {
+            for (int child = 0; child < 4; child++) {
+                c.due("CHILD " + child, due[child], x.passes(child, 0, 0, 0));
+            }
+        }
+    }
+
+    private static void passesByEachCode() {
+        c.of("18 STANDARD: each YEAR by its own CODE, its PASSES and its \"rise\"");
+        SchoolBoard x = Checks.board(2, 0);
+        act(x, 0, "clause 1:pass 4 needs 50;clause 2:rise 1;");
+        act(x, 2, "clause 1:pass 4 needs 61;");
+        act(x, 3, "clause 1:pass 4 needs 60;");
+        act(x, 5, "clause 2:rise 2;");
+        x.day(799);
+        for (int year = 0; year < 8; year++) {
+            x.result(1, year, 4, 60);
+        }
+        int[] due = {2, 3, 4, 4, 5, 6, 6, 6};
+        for (int year = 0; year < 8; year++) {
+            c.due("STANDARD in YEAR " + year, due[year], x.standard(1, year, 799));
+        }
+        SchoolBoard y = Checks.board(2, 0);
+        act(y, 0, "clause 1:pass 4 needs 61;clause 2:rise 1;");
+        act(y, 1, "clause 1:pass 4 needs 60;");
+        act(y, 2, "clause 1:pass 4 needs 61;");
+        y.day(799);
+        for (int year = 0; year < 8; year++) {
+            y.result(1, year, 4, 60);
+            y.result(0, year, 4, 61);
+        }
+        int[] few = {2, 2, 3, 3, 3, 3, 3, 3};
+        for (int year = 0; year < 8; year++) {
+            c.due("PASSES in YEAR 1 alone, in YEAR " + year, few[year], y.standard(1, year, 799));
+            c.due("PASSES in all, in YEAR " + year, Math.min(6, 2 + year), y.standard(0, year, 799));
+        }
+    }
+
+    private static void grantOfLaterYear() {
+        c.of("20 GRANT's IF and QUARTERS' IF: STANDARDS of the GRANT's YEAR, of which the SCHOOL's number isn't one");
+        SchoolBoard x = new SchoolBoard();
+        act(x, 0, "clause 1:count present as 2 if standard<5;clause 2:rise 0;clause 3:grant 1 per child if standard=2;"
+                + "clause 4:grant 16 per child if standard=3;clause 5:grant 256 per child if standard=4;"
+                + "clause 6:grant 4096 per child if standard=5;");
+        x.school(0, 0, 0);
+        x.school(0, 0, 0);
+        for (int child = 0; child < 3; child++) {
+            x.child(-700, 0, child);
+            x.enter(child, 1, 0);
+        }
+        x.day(399);
+        for (int child = 0; child < 3; child++) {
+            x.mark(child, 0, 0, 399, 1, 1);
+        }
+        int[] pence = {1, 1 + 16, 1 + 16 + 256, 16 + 256 + 4096};
+        int[] average = {3, 3, 3, 2};
+        for (int year = 3; year >= 0; year--) {
+            c.due("GRANT for YEAR " + year, pence[year], x.grant(1, year, 0, 399, 4));
+            c.due("AVERAGE in YEAR " + year, average[year], x.grant(1, year, 0, 399, 0));
+        }
+    }
+
+    private static void lineByCode() {
+        c.of("21 line: of the GRANT by the CODE that is told, whichever SCHOOL, YEAR and k are");
+        SchoolBoard x = Checks.board(3, 3);
+        for (int code = 0; code < 8; code++) {
+            act(x, code, "clause 3:grant " + (code + 1) + " per child;clause " + (code + 10) + ":grant 100 per child;");
+        }
+        x.day(250);
+        x.enter(2, 2, 0);
+        x.enter(1, 2, 0);
+        for (int year = 0; year < 3; year++) {
+            for (int code = 0; code < 8; code++) {
+                int lines = 2 + code;
+                String what = "YEAR " + year + " by the CODE of " + code;
+                c.due(what + ", first LINE", code + 1, x.line(2, year, code, 250, 0, 2));
+                c.due(what + ", its CHILD", 1, x.line(2, year, code, 250, 0, 0));
+                c.due(what + ", the first CHILD's last LINE", 10 + code, x.line(2, year, code, 250, lines - 1, 1));
+                c.due(what + ", the second's first LINE", 2, x.line(2, year, code, 250, lines, 0));
+                c.due(what + ", its pence", code + 1, x.line(2, year, code, 250, lines, 2));
+                c.due(what + ", behind the last LINE", -1000000, x.line(2, year, code, 250, 2 * lines, 2));
+            }
+        }
+    }
+
+    private static void lineAnew() {
+        c.of("21 line: anew when something was told since, whichever k was asked for");
+        for (int k = 0; k < 12; k++) {
+            SchoolBoard x = Checks.board(12, 1);
+            act(x, 0, "clause 1:grant 7 per child;");
+            for (int child = 0; child < 12; child++) {
+                x.enter(child, 0, 0);
+                c.due("LINES of " + (child + 1) + ", k " + k, k <= child ? 7 : -1000000, x.line(0, 0, 0, 0, k, 2));
+            }
+            for (int child = 11; child >= 0; child--) {
+                x.undo(child);
+                c.due("LINES of " + child + " again, k " + k, k < child ? 7 : -1000000, x.line(0, 0, 0, 0, k, 2));
+            }
+        }
+    }
+
+    private static void feesOfEachYear() {
+        c.of("22 FEES' IF: age, standard of each WEEK's YEAR, of the CHILD asked for");
+        SchoolBoard x = new SchoolBoard();
+        act(x, 0, "clause 1:rise 0;clause 2:fee 1 if standard=3;clause 3:fee 20 if standard=4;clause 4:fee 400 if standard=5;"
+                + "clause 5:fee 7000 if age>30;");
+        x.school(0, 0, 0);
+        x.child(-700, 0, 6);
+        x.child(-700, 0, 2);
+        x.child(-700, 0, 3);
+        for (int child = 0; child < 3; child++) {
+            x.enter(child, 0, 0);
+        }
+        int[] second = {0, 1, 20, 400, 0, 0, 0, 0};
+        int[] third = {1, 20, 400, 0, 0, 0, 0, 0};
+        int dueSecond = 0;
+        int dueThird = 0;
+        for (int year = 0; year < 8; year++) {
+            dueSecond += 20 * second[year];
+            dueThird += 20 * third[year];
+            c.due("another CHILD's STANDARD", 6, x.standard(0, 7, 0));
+            c.due("CHILD 1 up to YEAR " + year + "'s end", dueSecond, x.fees(1, year * 100 + 99, 0));
+            c.due("another CHILD's FEES", 0, x.fees(0, 799, 0));
+            c.due("CHILD 2 up to YEAR " + year + "'s end", dueThird, x.fees(2, year * 100 + 99, 0));
+        }
+    }
+
+    private static void quartersAsByNow() {
+        c.of("34 ENTERING: quarters as by now, of TODAY's YEAR by TODAY's YEAR's CODE, PASSES by it too");
+        SchoolBoard x = Checks.board(3, 2);
+        act(x, 0, "clause 1:count present as 2;clause 2:pass 0 needs 0;clause 3:grant 5 per pass 0 if quarters=12;"
+                + "clause 4:grant 70 per pass 0 if quarters=6;clause 5:grant 900 per pass 0 if quarters=0;");
+        act(x, 3, "clause 1:count present as 1;clause 2:pass 0 needs 50;");
+        x.enter(2, 1, 0);
+        x.estimate(2, 0, 50);
+        x.day(202);
+        x.mark(2, 200, 0, 202, 1, 1);
+        c.due("12 in YEAR 2", 5, x.entering(1, 9, 0));
+        x.day(302);
+        c.due("none yet in YEAR 3", 900, x.entering(1, 9, 0));
+        x.mark(2, 300, 0, 302, 1, 1);
+        c.due("6 in YEAR 3", 70, x.entering(1, 9, 0));
+        x.estimate(2, 0, 49);
+        c.due("49 marks of 50", 0, x.entering(1, 9, 0));
     }
 }
