@@ -6,6 +6,7 @@ public final class ReckoningEdgesTest {
     public static void main(String[] args) {
         quartersAsked();
         quartersWhere();
+        quartersOfEachSchool();
         quartersOfMarks();
         quartersOfExcuses();
         quartersIf();
@@ -107,6 +108,24 @@ public final class ReckoningEdgesTest {
         x.undo(again);
         c.due("43 again", 2, x.quarters(0, 43, 1, 0, 60));
         c.due("42 still shut", 0, x.quarters(0, 42, 1, 0, 60));
+    }
+
+    private static void quartersOfEachSchool() {
+        c.of("16 QUARTERS: of six SCHOOLS each with its own HOLIDAYS");
+        for (int shut = 0; shut < 6; shut++) {
+            SchoolBoard x = board(6, 6, 30, "clause 1:count present as 2;");
+            for (int child = 0; child < 6; child++) {
+                x.enter(child, child, 0);
+                x.mark(child, 0, 0, 30, 1, 1);
+            }
+            x.shut(shut, 10, 11);
+            for (int child = 0; child < 6; child++) {
+                boolean isShut = child == shut;
+                c.due("SCHOOL " + child + " where " + shut + " is shut", isShut ? 0 : 2, x.quarters(child, 11, 1, 0, 30));
+                c.due("QUARTERS of the YEAR", isShut ? 116 : 124, x.yearly(child, 0, 0, 30));
+                c.due("DAYS that aren't shut", isShut ? 98 : 100, x.grant(child, 0, 0, 30, 1));
+            }
+        }
     }
 
     private static void quartersOfMarks() {
@@ -689,6 +708,11 @@ public final class ReckoningEdgesTest {
         SchoolBoard all = fullYear(3, "clause 3:grant 10 per head;");
         c.due("none", -1, all.grant(0, 0, 0, 99, 3));
         c.due("all", 30, all.grant(0, 0, 0, 99, 4));
+        all.teacher(0);
+        c.due("none, with a PUPIL TEACHER there", -1, all.grant(0, 0, 0, 99, 3));
+        c.due("all, with a PUPIL TEACHER there", 30, all.grant(0, 0, 0, 99, 4));
+        all.teacher(0);
+        c.due("none, with two", -1, all.grant(0, 0, 0, 99, 3));
         c.of("20 STAFF: the master and each PUPIL TEACHER there");
         two.teacher(1);
         c.due("one at another SCHOOL", 2, two.grant(0, 0, 0, 99, 3));
@@ -1122,6 +1146,13 @@ public final class ReckoningEdgesTest {
         c.refused("the one behind TODAY's", 0, ReckoningEdgesTest::apprentice, x -> Checks.bit(x.proof(0, 5, 50)));
         c.refused("year -1", 0, ReckoningEdgesTest::apprentice, x -> Checks.bit(x.proof(0, -1, 50)));
         c.refused("year 8", 0, ReckoningEdgesTest::apprentice, x -> Checks.bit(x.proof(0, 8, 50)));
+        int[][] ends = {{99, 0}, {100, 1}, {199, 1}, {200, 2}, {699, 6}, {700, 7}, {799, 7}};
+        for (int[] end : ends) {
+            SchoolBoard x = taught(1);
+            x.day(end[0]);
+            c.yes("on " + end[0] + " for YEAR " + end[1], x.proof(0, end[1], 50));
+            c.no("on " + end[0] + " for the YEAR behind it", x.proof(0, end[1] + 1, 50));
+        }
         c.of("26 proof: 0 to 100");
         c.yes("mark 0", apprentice().proof(0, 2, 0));
         c.yes("mark 100", apprentice().proof(0, 2, 100));
